@@ -856,6 +856,24 @@ public final class BoundaryLooksTest extends Boundary {
         due("its older echoes are not asked", old.safeFor(), 21);
     }
 
+    @Sentence(promise = 17, says = "the first row that is safe now would be so no more")
+    static void unknownCellsAreNotAsked() {
+        EchoMargins x = new EchoMargins();
+        x.set(0, 16);
+        x.swap(0, 3);
+        x.lose(1);
+        x.mend(1);
+        x.swap(0, 3);
+        x.days(5);
+        for (int row = 0; row < 5; row++) {
+            x.lay(row);
+        }
+        due("unknown", x.cell(1, 0, 0), NOT_FOUND);
+        due("with an echo of old", x.cell(1, 0, 3), 5);
+        due("all are safe", x.count(3), 31);
+        due("by the cells that are known", x.safeFor(), 21);
+    }
+
     @Sentence(promise = 17, says = "NOT_FOUND if no row is safe that has a cell that is known.")
     static void noRowIsSafe() {
         EchoMargins x = begun(3);

@@ -76,6 +76,7 @@ public final class BoundaryTermsTest extends Boundary {
     static void noTenthRow() {
         EchoMargins x = begun(9);
         x.write(0, 0, 999);
+        x.write(8, 7, 998);
         x.lose(0);
         x.mend(0);
         x.days(1);
