@@ -5,7 +5,6 @@ import java.nio.file.Files;
 import java.nio.file.Path;
 import java.util.regex.Matcher;
 import java.util.regex.Pattern;
-import javax.tools.ToolProvider;
 
 /** The examples in README.md are compiled and done, and each call answers what is said behind it. */
 public final class ReadmeTest {
@@ -56,8 +55,8 @@ public final class ReadmeTest {
     private static void runProgram(String program, Path place) throws Exception {
         Path file = place.resolve("Examples.java");
         Files.writeString(file, program);
-        int failed = ToolProvider.getSystemJavaCompiler().run(null, null, null, "-proc:none",
-            "-cp", System.getProperty("java.class.path"), "-d", place.toString(), file.toString());
+        int failed = new ProcessBuilder("javac", "-encoding", "UTF-8", "-proc:none", "-cp",
+            System.getProperty("java.class.path"), "-d", place.toString(), file.toString()).inheritIO().start().waitFor();
         require(failed == 0, "the examples can't be compiled");
         if (failed != 0) {
             return;
